@@ -1,0 +1,44 @@
+import java.util.function.Supplier;
+
+/** Counts checks and tells those that fail, with the line of the test where they stand. */
+final class Checks {
+    static final String INDEX = "throws.IndexOutOfBoundsException";
+    static final String ARGUMENT = "throws.IllegalArgumentException";
+    static final String STATE = "throws.IllegalStateException";
+
+    private int passed = 0;
+    private int failed = 0;
+
+    static String answerOf(Supplier<Object> call) {
+        try {
+            return String.valueOf(call.get());
+        } catch (RuntimeException e) {
+            return "throws." + e.getClass().getSimpleName();
+        }
+    }
+
+    void due(Object want, Supplier<Object> call) {
+        String got = answerOf(call);
+        if (got.equals(String.valueOf(want))) {
+            passed++;
+            return;
+        }
+        failed++;
+        System.out.println(callerOfDue() + ": answered " + got + ", due is " + want);
+    }
+
+    private static StackTraceElement callerOfDue() {
+        StackTraceElement[] frames = new Throwable().getStackTrace();
+        int at = 1;
+        while (frames[at].getMethodName().equals("due")) {
+            at++;
+        }
+        return frames[at];
+    }
+
+    /** Ends the program with exit code 1 if a check failed, or if there was none. */
+    void end() {
+        System.out.println(passed + " passed, " + failed + " failed");
+        System.exit(failed == 0 && passed > 0 ? 0 : 1);
+    }
+}
