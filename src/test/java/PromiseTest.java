@@ -302,6 +302,13 @@ public final class PromiseTest {
         due(10, () -> x.removeLocator(0, 1));
         due(11, () -> x.removeLocator(0, 2));
         due(-3, () -> x.send(0, 0));
+        x.addLocator(0, 5, 0, 1);
+        x.addLocator(0, 6, 2, 1);
+        x.addLocator(0, 7, 1, 1);
+        due(15, () -> x.removeLocator(0, 5));
+        due(7, () -> x.send(0, 0));
+        x.probe(0, 7, false);
+        due(6, () -> x.send(0, 0));
         x.withdraw(0);
         due(STATE, () -> x.removeLocator(0, 2));
         due(ARGUMENT, () -> x.removeLocator(0, 32));
@@ -406,6 +413,9 @@ public final class PromiseTest {
         due(ARGUMENT, () -> x.delegate(0, -1, 0));
         due(ARGUMENT, () -> x.delegate(0, 17, 0));
         due(ARGUMENT, () -> x.delegate(1, 15, 0));
+        LocatorMapper y = new LocatorMapper();
+        due(1, () -> y.delegate(65535, 16, 3));
+        due(2, () -> y.delegate(0, 0, 3));
         due(1, () -> x.delegate(0, 0, 3));
         due(1, () -> x.delegate(0, 0, 2));
         due(2, () -> x.serverOf(9));
@@ -511,6 +521,13 @@ public final class PromiseTest {
         due(8, () -> x.send(2, 0));
         due(8, () -> x.send(2, 0));
         due(8, () -> x.send(1, 0));
+        x.register(65535, 16);
+        x.addLocator(1, 1, 0, 1);
+        x.addLocator(1, 2, 0, 10);
+        for (int i = 0; i < 11; i++) {
+            int wantedThen = i == 5 ? 1 : 2;
+            due(wantedThen, () -> x.send(0, 65535));
+        }
     }
 
     private static void sendKeepsToPriorities() {
@@ -541,6 +558,11 @@ public final class PromiseTest {
         x.probe(0, 1, true);
         due(1, () -> x.send(0, 0));
         due(3, () -> x.answers(0));
+        x.register(0, 16);
+        x.addLocator(1, 4, 1, 1);
+        x.addLocator(1, 5, 2, 1);
+        due(4, () -> x.send(2, 0));
+        due(4, () -> x.send(2, 0));
     }
 
     private static void sendAsks() {
@@ -835,5 +857,15 @@ public final class PromiseTest {
         due(4, x::solicitations);
         due(STATE, () -> x.withdraw(2));
         due(4, x::solicitations);
+        LocatorMapper y = new LocatorMapper();
+        y.send(0, 0);
+        y.register(0, 16);
+        due(1, y::solicitations);
+        y.send(0, 1);
+        due(20, () -> y.lasts(0, 0));
+        y.withdraw(0);
+        due(1, y::solicitations);
+        y.register(1, 16);
+        due(2, y::solicitations);
     }
 }
