@@ -8,6 +8,7 @@ final class Checks {
 
     private int passed = 0;
     private int failed = 0;
+    private String words = "";
 
     static String answerOf(Supplier<Object> call) {
         try {
@@ -17,14 +18,29 @@ final class Checks {
         }
     }
 
+    /** A test of its own for the document's words, which are told if one of its checks fails. */
+    void sentence(String documentsWords, Runnable test) {
+        words = documentsWords + ": ";
+        int before = passed + failed;
+        test.run();
+        if (passed + failed == before) {
+            tellFailed("nothing was checked");
+        }
+        words = "";
+    }
+
     void due(Object want, Supplier<Object> call) {
         String got = answerOf(call);
         if (got.equals(String.valueOf(want))) {
             passed++;
             return;
         }
+        tellFailed(callerOfDue() + ": answered " + got + ", due is " + want);
+    }
+
+    private void tellFailed(String what) {
         failed++;
-        System.out.println(callerOfDue() + ": answered " + got + ", due is " + want);
+        System.out.println(words + what);
     }
 
     private static StackTraceElement callerOfDue() {
