@@ -1,9 +1,3 @@
-import java.lang.reflect.Constructor;
-import java.lang.reflect.Field;
-import java.lang.reflect.Method;
-import java.lang.reflect.Modifier;
-import java.util.Arrays;
-import java.util.TreeSet;
 import java.util.function.Supplier;
 
 /** For each promise of the document its ordinary inputs, its edges and wrong inputs. */
@@ -21,7 +15,6 @@ public final class PromiseTest {
     }
 
     public static void main(String[] args) {
-        face();
         newObject();
         register();
         registerSolicits();
@@ -62,37 +55,6 @@ public final class PromiseTest {
         x.addLocator(0, 1, 0, 1);
         x.addLocator(0, 2, 0, 2);
         return x;
-    }
-
-    private static void face() {
-        due("[NONE, UNANSWERED, UNREACHABLE]", () -> {
-            TreeSet<String> names = new TreeSet<>();
-            for (Field field : LocatorMapper.class.getDeclaredFields()) {
-                if (!Modifier.isPrivate(field.getModifiers())) {
-                    names.add(field.getName());
-                }
-            }
-            return names;
-        });
-        due("[addLocator, answerLength, answers, delegate, entries, lasts, mappingAt, mappingOf, move, packetsTo, "
-                + "pass, prefixOf, probe, register, removeLocator, send, serverOf, setLifetimes, setUp, "
-                + "solicitations, version, withdraw]", () -> {
-            TreeSet<String> names = new TreeSet<>();
-            for (Method method : LocatorMapper.class.getDeclaredMethods()) {
-                if (!Modifier.isPrivate(method.getModifiers())) {
-                    names.add(method.getName());
-                }
-            }
-            return names;
-        });
-        due("[public LocatorMapper()]", () -> {
-            Constructor<?>[] made = LocatorMapper.class.getDeclaredConstructors();
-            return Arrays.toString(made);
-        });
-        due(Modifier.PUBLIC | Modifier.FINAL, () -> LocatorMapper.class.getModifiers());
-        due(-1, () -> LocatorMapper.NONE);
-        due(-2, () -> LocatorMapper.UNANSWERED);
-        due(-3, () -> LocatorMapper.UNREACHABLE);
     }
 
     private static void newObject() {
